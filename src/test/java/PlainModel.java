@@ -379,8 +379,8 @@ final class PlainModel {
             case "about":
                 need(a[0], 0, 11);
                 int inStocks = s.sondes.size() - s.onTheWay().size();
-                return new int[] {s.stations.size(), s.finders.size(), s.now, s.paid, s.releases(), s.gaps.size(), s.lost,
-                    s.came, s.scrapped, s.onTheWay().size(), s.deliveries.size(), inStocks}[(int) a[0]];
+                return new int[] {s.stations.size(), s.finders.size(), s.now, s.paid, s.releases(), s.gaps.size(),
+                    s.lost, s.came, s.scrapped, s.onTheWay().size(), s.deliveries.size(), inStocks}[(int) a[0]];
             case "station":
                 s.needStation(a[0]);
                 need(a[1], 0, 7);

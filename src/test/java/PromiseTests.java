@@ -237,6 +237,7 @@ public final class PromiseTests {
         Check.is("5 its hours", 15, () -> x.station(0, 1));
         Check.is("5 its size", 3, () -> x.station(0, 2));
         Check.is("5 its gas", 12 - 3 * 3 + 12 - 3, () -> x.station(0, 3));
+        Check.is("5 the finder's place", 40, () -> x.finder(0, 0));
         Check.is("5 the finder's reach", 1, () -> x.finder(0, 1));
         Check.is("5 the finder's delay", 30, () -> x.finder(0, 2));
         Check.is("5 windOf(0)", 93, () -> x.windOf(0));
@@ -256,6 +257,11 @@ public final class PromiseTests {
         Check.is("5 a seventh finder is left out", 2, x::load);
         type(x, "Ns00001000d0010d0010d0010d0010d0010d0010d0010d0010d0010d1010");
         Check.is("5 a ninth delivery is left out", 2, x::load);
+        type(x, "N" + "w0+05".repeat(22) + "s00001000");
+        Check.state("5 the text is full", () -> x.append('r'));
+        Check.is("5 load() of a full text", 0, x::load);
+        Check.is("5 its first command", 105, () -> x.windOf(0));
+        Check.is("5 its last command", 1, () -> x.about(0));
     }
 
     private static void promise6About() {
@@ -348,6 +354,10 @@ public final class PromiseTests {
         SondeStations x = new SondeStations();
         x.addFinder(50, 20, 30);
         Check.is("9 no station", -1, () -> x.finder(0, 4));
+        x.addFinder(0, 0, 1);
+        x.addStation(99, 0, 1, 0, 0);
+        Check.is("9 as far as can be", 0, () -> x.finder(1, 4));
+        x.undo();
         x.addStation(40, 1, 1, 9, 9);
         x.addStation(60, 1, 1, 9, 9);
         x.addStation(60, 0, 1, 9, 9);
@@ -364,7 +374,7 @@ public final class PromiseTests {
         Check.is("9 found, scrapped too", 3, () -> x.finder(0, 3));
         Check.is("9 scrapped", 3, () -> x.about(8));
         Check.is("9 lost", 1, () -> x.about(6));
-        Check.index("9 finder(1, 5)", () -> x.finder(1, 5));
+        Check.index("9 finder(2, 5)", () -> x.finder(2, 5));
         Check.index("9 finder(-1, 0)", () -> x.finder(-1, 0));
         Check.argument("9 finder(0, 5)", () -> x.finder(0, 5));
         Check.argument("9 finder(0, -1)", () -> x.finder(0, -1));
