@@ -800,7 +800,7 @@ public final class SondeStations {
 
         /** Returns what a station does in the watch of now, with the gas and the sondes that it has. */
         int planOf(int s) {
-            if ((stations.hours[s] >> now % HOURS & 1) == 0) {
+            if (!stations.has(s) || (stations.hours[s] >> hourOfNow() & 1) == 0) {
                 return NOTHING;
             }
             if (stations.gas[s] < stations.size[s]) {
@@ -816,7 +816,7 @@ public final class SondeStations {
             stations.releases[s]++;
             releases++;
             int flights = before + 1;
-            int place = landingPlace(s, now % HOURS);
+            int place = landingPlace(s, hourOfNow());
             int f = place == NONE ? NONE : finders.whoFindsAt(place);
             if (f == NONE) {
                 lost++;
@@ -830,7 +830,14 @@ public final class SondeStations {
             }
         }
 
+        private int hourOfNow() {
+            return Math.floorMod(now, HOURS);
+        }
+
         int landingPlace(int s, int hour) {
+            if (!stations.has(s) || !within(hour, 0, HOURS - 1)) {
+                return NONE;
+            }
             int place = stations.place[s] + winds[hour] * stations.size[s];
             return within(place, 0, FARTHEST) ? place : NONE;
         }
@@ -1090,22 +1097,25 @@ public final class SondeStations {
     /** The gaps: how many there were, and the latest of them in a ring. */
     private static final class Gaps {
         int count;
+        /** Where the next gap goes: over the oldest one, once all places are taken. */
+        private int next;
         private final int[] watch = new int[MOST_GAPS];
         private final int[] station = new int[MOST_GAPS];
         private final int[] reason = new int[MOST_GAPS];
 
         void copyFrom(Gaps other) {
             count = other.count;
+            next = other.next;
             copyRow(other.watch, watch);
             copyRow(other.station, station);
             copyRow(other.reason, reason);
         }
 
         void add(int itsWatch, int s, int itsReason) {
-            int k = count % MOST_GAPS;
-            watch[k] = itsWatch;
-            station[k] = s;
-            reason[k] = itsReason;
+            watch[next] = itsWatch;
+            station[next] = s;
+            reason[next] = itsReason;
+            next = next + 1 < MOST_GAPS ? next + 1 : 0;
             count++;
         }
 
@@ -1114,7 +1124,8 @@ public final class SondeStations {
             if (!within(k, 0, MOST_GAPS - 1) || k >= count) {
                 return NONE;
             }
-            int at = (count - 1 - k) % MOST_GAPS;
+            int latest = next - 1 - k;
+            int at = latest < 0 ? latest + MOST_GAPS : latest;
             switch (what) {
                 case 0:
                     return watch[at];

@@ -5,6 +5,7 @@ final class Check {
     private static final int MOST_TOLD = 50;
     private static int wrong = 0;
     private static int made = 0;
+    private static String under = "";
 
     private Check() {
     }
@@ -22,7 +23,7 @@ final class Check {
         if (!got.equals(due)) {
             wrong++;
             if (wrong <= MOST_TOLD) {
-                System.out.println(what + " answered " + got + ", due is " + due);
+                System.out.println(under + what + " answered " + got + ", due is " + due);
             }
         }
     }
@@ -41,6 +42,24 @@ final class Check {
 
     static void state(String what, Callable<Integer> call) {
         same(what, answer(call), "throws.IllegalStateException");
+    }
+
+    /** Runs the test of one sentence; a wrong answer in it is told with the sentence. */
+    static void sentence(int promise, String words, Runnable test) {
+        under = "promise " + promise + ", \"" + words + "\": ";
+        int before = made;
+        try {
+            test.run();
+        } catch (RuntimeException e) {
+            same("the test", "throws." + e.getClass().getSimpleName(), "no exception");
+        }
+        same("asks at least once", "" + (made > before), "true");
+        under = "";
+    }
+
+    static void works(String what, Callable<Integer> call) {
+        String got = answer(call);
+        same(what, got.startsWith("throws.") ? got : "a number", "a number");
     }
 
     static int wrong() {

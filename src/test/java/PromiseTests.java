@@ -47,32 +47,6 @@ public final class PromiseTests {
         Check.end("PromiseTests");
     }
 
-    private static void type(SondeStations x, String text) {
-        x.clearText();
-        for (char c : text.toCharArray()) {
-            x.append(c);
-        }
-    }
-
-    private static SondeStations loaded(String text) {
-        SondeStations x = new SondeStations();
-        type(x, text);
-        Check.is("load() of " + text, 0, x::load);
-        return x;
-    }
-
-    /**
-     * A station at 20 that releases at every hour, with 5 gas and 2 sondes, and a finder beside it with the delay 2.
-     * Watch 0 and 1 release the two sondes; from watch 2 on one comes back in each watch and goes up again; in watch 4
-     * the first one is scrapped behind its third flight; in watch 5 and 6 there is no gas, and one sonde lies there.
-     */
-    private static SondeStations small() {
-        SondeStations x = new SondeStations();
-        x.addStation(20, 15, 1, 5, 2);
-        x.addFinder(20, 0, 2);
-        return x;
-    }
-
     private static void abouts(String when, SondeStations x, int... due) {
         for (int what = 0; what < due.length; what++) {
             int k = what;
@@ -147,7 +121,7 @@ public final class PromiseTests {
 
     private static void promise3ClearText() {
         SondeStations x = new SondeStations();
-        type(x, "Nr1");
+        Nets.type(x, "Nr1");
         Check.is("3 clearText()", 3, x::clearText);
         Check.is("3 clearText() again", 0, x::clearText);
         Check.is("3 errorPosition()", 0, x::errorPosition);
@@ -207,7 +181,7 @@ public final class PromiseTests {
 
     private static void error(String text, int due) {
         SondeStations x = new SondeStations();
-        type(x, text);
+        Nets.type(x, text);
         Check.is("4 errorPosition() of \"" + text + "\"", due, x::errorPosition);
         if (due == SondeStations.NONE) {
             Check.same("5 load() of \"" + text + "\"", "" + Check.answer(x::load).startsWith("throws"), "false");
@@ -217,20 +191,20 @@ public final class PromiseTests {
     }
 
     private static void promise5Load() {
-        SondeStations x = small();
+        SondeStations x = Nets.small();
         x.run(3);
         x.set(4, 77);
         x.wind(2, 20);
         x.save(0);
         x.save(1);
-        type(x, "Nr0");
+        Nets.type(x, "Nr0");
         Check.state("5 load() of no net", x::load);
         Check.is("5 a refused load changes nothing", 3, () -> x.about(2));
         Check.is("5 and keeps what is saved", 3, () -> x.restore(1));
         x.run(1);
         // left out: a delivery before there are stations, an empty delivery. The three sondes are lost, there is a gap
         // by sondes in watch 3, and the sonde that comes in watch 4 is lost too.
-        type(x, "Nd0011s45153123f400130w0-07w3+20d0000d0121r5d0011");
+        Nets.type(x, "Nd0011s45153123f400130w0-07w3+20d0000d0121r5d0011");
         Check.is("5 load()", 2, x::load);
         abouts("5", x, 1, 1, 5, 44 + 22, 4, 1, 4, 0, 0, 0, 1, 0);
         Check.is("5 its place", 45, () -> x.station(0, 0));
@@ -248,16 +222,16 @@ public final class PromiseTests {
         Check.state("5 restore(0)", () -> x.restore(0));
         Check.state("5 restore(1)", () -> x.restore(1));
         Check.is("5 the text stays", 49, x::clearText);
-        type(x, "Ns00111000s00111000");
+        Nets.type(x, "Ns00111000s00111000");
         Check.is("5 load() from the start", 0, x::load);
         Check.is("5 stations", 2, () -> x.about(0));
-        type(x, "Ns00011000s00011000s00011000s00011000s00011000s00011000");
+        Nets.type(x, "Ns00011000s00011000s00011000s00011000s00011000s00011000");
         Check.is("5 a sixth station is left out", 1, x::load);
-        type(x, "Nf000001f000001f000001f000001f000001f000001f000001f000001");
+        Nets.type(x, "Nf000001f000001f000001f000001f000001f000001f000001f000001");
         Check.is("5 a seventh finder is left out", 2, x::load);
-        type(x, "Ns00001000d0010d0010d0010d0010d0010d0010d0010d0010d0010d1010");
+        Nets.type(x, "Ns00001000d0010d0010d0010d0010d0010d0010d0010d0010d0010d1010");
         Check.is("5 a ninth delivery is left out", 2, x::load);
-        type(x, "N" + "w0+05".repeat(22) + "s00001000");
+        Nets.type(x, "N" + "w0+05".repeat(22) + "s00001000");
         Check.state("5 the text is full", () -> x.append('r'));
         Check.is("5 load() of a full text", 0, x::load);
         Check.is("5 its first command", 105, () -> x.windOf(0));
@@ -265,7 +239,7 @@ public final class PromiseTests {
     }
 
     private static void promise6About() {
-        SondeStations x = small();
+        SondeStations x = Nets.small();
         abouts("6 new", x, 1, 1, 0, 0, 0, 0, 0, 0, 0, 0, 0, 2);
         x.run(1);
         abouts("6 behind watch 0", x, 1, 1, 1, 0, 1, 0, 0, 0, 0, 1, 0, 1);
@@ -284,7 +258,7 @@ public final class PromiseTests {
     }
 
     private static void promise7Station() {
-        SondeStations x = small();
+        SondeStations x = Nets.small();
         x.addStation(90, 6, 5, 999, 0);
         int[] due = {90, 6, 5, 999, 0, 0, 0, 0};
         for (int what = 0; what < due.length; what++) {
@@ -323,7 +297,7 @@ public final class PromiseTests {
     }
 
     private static void promise8Stock() {
-        SondeStations x = small();
+        SondeStations x = Nets.small();
         x.set(1, 5);
         Check.is("8 stock(0, 0)", 2, () -> x.stock(0, 0));
         Check.is("8 stock(0, 1)", 0, () -> x.stock(0, 1));
@@ -559,7 +533,7 @@ public final class PromiseTests {
     }
 
     private static void promise17Change() {
-        SondeStations x = small();
+        SondeStations x = Nets.small();
         Check.is("17 change(0, 2, 5)", 15, () -> x.change(0, 2, 5));
         Check.is("17 change(0, 2, 5) again", 2, () -> x.change(0, 2, 5));
         Check.is("17 the hours", 2, () -> x.station(0, 1));
@@ -615,7 +589,7 @@ public final class PromiseTests {
     }
 
     private static void promise19Move() {
-        SondeStations x = small();
+        SondeStations x = Nets.small();
         x.addStation(80, 0, 1, 0, 0);
         x.run(3);
         x.change(0, 0, 1);
@@ -637,7 +611,7 @@ public final class PromiseTests {
     }
 
     private static void promise20Run() {
-        SondeStations x = small();
+        SondeStations x = Nets.small();
         Check.is("20 run(2)", 2, () -> x.run(2));
         Check.is("20 run(5)", 3, () -> x.run(5));
         Check.is("20 run(40)", 0, () -> x.run(40));
@@ -679,7 +653,7 @@ public final class PromiseTests {
     }
 
     private static void rewardAndLimitAreThoseOfTheWatch() {
-        SondeStations x = small();
+        SondeStations x = Nets.small();
         x.run(1);
         x.set(4, 50);
         x.run(2);
@@ -706,7 +680,7 @@ public final class PromiseTests {
         Check.argument("21 set(-1, 1)", () -> x.set(-1, 1));
         Check.argument("21 set(5, 1)", () -> x.set(5, 1));
         Check.is("21 ten actions", 9, x::undo);
-        SondeStations y = small();
+        SondeStations y = Nets.small();
         y.deliver(0, 5, 0);
         y.set(0, 1);
         y.run(4);
@@ -716,8 +690,8 @@ public final class PromiseTests {
     }
 
     private static void promise22Undo() {
-        SondeStations x = small();
-        type(x, "Nr1");
+        SondeStations x = Nets.small();
+        Nets.type(x, "Nr1");
         x.save(0);
         x.run(7);
         Check.is("22 undo() of run", 2, x::undo);
@@ -793,7 +767,7 @@ public final class PromiseTests {
     }
 
     private static void promise25Coming() {
-        SondeStations x = small();
+        SondeStations x = Nets.small();
         int[][] due = {{1, 1, 0, 0, 1}, {3, 3, 0, 5, 0}, {7, 5, 2, 20, 1}, {60, 5, 55, 20, 1}};
         for (int[] d : due) {
             for (int what = 0; what < 4; what++) {
@@ -834,7 +808,7 @@ public final class PromiseTests {
     }
 
     private static void promise27Lacks() {
-        SondeStations x = small();
+        SondeStations x = Nets.small();
         Check.is("27 lacks(0, 5)", 0, () -> x.lacks(0, 5));
         // with gas there is a gap by sondes or a release, but each needs that there is 1 gas
         Check.is("27 lacks(0, 6)", 1, () -> x.lacks(0, 6));
@@ -862,7 +836,7 @@ public final class PromiseTests {
     }
 
     private static void promise28IfDelivered() {
-        SondeStations x = small();
+        SondeStations x = Nets.small();
         x.addStation(70, 0, 5, 0, 0);
         Check.is("28 too early to see", 0, () -> x.ifDelivered(0, 1, 0, 5));
         Check.is("28 one gas puts one gap off", 1, () -> x.ifDelivered(0, 1, 0, 7));
@@ -889,7 +863,7 @@ public final class PromiseTests {
     }
 
     private static void promise29RunScript() {
-        SondeStations x = small();
+        SondeStations x = Nets.small();
         x.addStation(80, 0, 2, 30, 12);
         long[] good = {10011L, 10990L, 10009L, 20100L, 21000L, 30155L, 31001L, 40000L, 43400L, 50010L, 50300L, 51050L,
             52990L, 54000L, 60001L, 60040L, 70050L, 71300L, 80020L, 81120L, 90000L, 90990L};
@@ -954,7 +928,7 @@ public final class PromiseTests {
     }
 
     private static void promise31Save() {
-        SondeStations x = small();
+        SondeStations x = Nets.small();
         Check.is("31 save(0)", 0, () -> x.save(0));
         x.run(7);
         Check.is("31 save(1)", 7, () -> x.save(1));
@@ -973,7 +947,7 @@ public final class PromiseTests {
     }
 
     private static void promise32Restore() {
-        SondeStations x = small();
+        SondeStations x = Nets.small();
         Check.state("32 nothing there", () -> x.restore(0));
         Check.state("32 nothing there", () -> x.restore(1));
         Check.index("32 restore(2)", () -> x.restore(2));
@@ -985,7 +959,7 @@ public final class PromiseTests {
         x.run(6);
         x.save(1);
         x.run(9);
-        type(x, "Nr7");
+        Nets.type(x, "Nr7");
         Check.is("32 restore(1)", 6, () -> x.restore(1));
         Check.state("32 all states are forgotten", x::undo);
         Check.is("32 windOf(1)", 107, () -> x.windOf(1));
@@ -998,7 +972,7 @@ public final class PromiseTests {
         x.run(3);
         Check.is("32 undo() behind it", 0, x::undo);
         Check.is("32 to what was restored", 6, () -> x.about(2));
-        type(x, "N");
+        Nets.type(x, "N");
         x.load();
         Check.state("32 load empties the slot", () -> x.restore(1));
     }
