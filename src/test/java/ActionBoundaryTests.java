@@ -33,6 +33,7 @@ public final class ActionBoundaryTests {
         Check.sentence(14, "`sondes`: 0 to 99", () -> ROOMY.range("sondes", good, 4, 0, 99, add));
         Check.sentence(14, "Adds a station; its sondes made no flight.", ActionBoundaryTests::stationAtTheEdges);
         Check.sentence(14, "Returns its number.", ActionBoundaryTests::numbersOfStations);
+        Check.sentence(14, "There are at most 5 stations, numbered from 0.", ActionBoundaryTests::stationsOfALateNet);
         Check.sentence(14, "Throws `IllegalArgumentException` if an argument is out of range",
                 ActionBoundaryTests::oneArgumentOutOfRange);
         Check.sentence(14, "Throws `IllegalStateException` if there are 5", ActionBoundaryTests::sixthStation);
@@ -52,6 +53,7 @@ public final class ActionBoundaryTests {
         Check.sentence(15, "`reach`: 0 to 20", () -> ROOMY.range("reach", good, 1, 0, 20, add));
         Check.sentence(15, "`delay`: 1 to 30", () -> ROOMY.range("delay", good, 2, 1, 30, add));
         Check.sentence(15, "Returns the number of the finder.", ActionBoundaryTests::numbersOfFinders);
+        Check.sentence(15, "There are at most 6 finders, numbered from 0.", ActionBoundaryTests::findersOfALateNet);
         Check.sentence(15, "Throws `IllegalArgumentException` if an argument is out of range", () -> {
             NEW.argument("place", x -> x.addFinder(100, 0, 1));
             NEW.argument("reach", x -> x.addFinder(0, 21, 1));
@@ -112,6 +114,8 @@ public final class ActionBoundaryTests {
         Check.sentence(18, "`gas`: 0 to 999", () -> ROOMY.range("gas", good, 1, 0, 999, deliver));
         Check.sentence(18, "`sondes`: 0 to 99", () -> ROOMY.range("sondes", good, 2, 0, 99, deliver));
         Check.sentence(18, "arrives in the watch of now plus setting 0", ActionBoundaryTests::arrivesInItsWatch);
+        Check.sentence(18, "deliveries add their gas and their sondes (which made no flight) to their stations",
+                ActionBoundaryTests::eightOfThem);
         Check.sentence(18, "and is paid now.", ActionBoundaryTests::paidWhenItIsOrdered);
         Check.sentence(18, "Returns its price.", ActionBoundaryTests::lowestAndHighestPrice);
         Check.sentence(18, "Throws `IndexOutOfBoundsException` if there is no such station", () -> {
@@ -217,6 +221,60 @@ public final class ActionBoundaryTests {
             Check.is("station(0, 6)", 0, () -> x.station(0, 6));
             Check.is("paid", 0, () -> x.about(3));
         }
+    }
+
+    /** Behind many watches and gaps; hundreds of sondes were scrapped, came back and were lost. */
+    private static SondeStations late() {
+        SondeStations x = Nets.one(999, 99);
+        x.addFinder(50, 0, 1);
+        x.set(1, 2);
+        x.deliver(0, 999, 99);
+        x.deliver(0, 999, 99);
+        for (int k = 0; k < 30; k++) {
+            x.run(40);
+        }
+        for (int hour = 0; hour < 4; hour++) {
+            x.wind(hour, 20);
+            x.deliver(0, 999, 99);
+        }
+        for (int k = 0; k < 30; k++) {
+            x.run(40);
+        }
+        return x;
+    }
+
+    private static void stationsOfALateNet() {
+        SondeStations x = late();
+        int[] due = {2400, 297 * 2 + 396, 396, 297, 297};
+        int[] numbers = {2, 4, 6, 7, 8};
+        for (int k = 0; k < due.length; k++) {
+            int what = numbers[k];
+            Check.is("about(" + what + ")", due[k], () -> x.about(what));
+        }
+        for (int s = 1; s < 5; s++) {
+            int k = s;
+            Check.is("addStation", s, () -> x.addStation(90 - k, k, k, 10 + k, k));
+            int[] added = {90 - k, k, k, 10 + k, k, 0, 0};
+            for (int what = 0; what < added.length; what++) {
+                int asked = what;
+                Check.is("station(" + s + ", " + what + ")", added[what], () -> x.station(k, asked));
+            }
+        }
+        Check.state("a sixth", () -> x.addStation(0, 0, 1, 0, 0));
+    }
+
+    private static void findersOfALateNet() {
+        SondeStations x = late();
+        for (int f = 1; f < 6; f++) {
+            int k = f;
+            Check.is("addFinder", f, () -> x.addFinder(90 - k, k, 2 * k));
+            int[] due = {90 - k, k, 2 * k, 0};
+            for (int what = 0; what < due.length; what++) {
+                int asked = what;
+                Check.is("finder(" + f + ", " + what + ")", due[what], () -> x.finder(k, asked));
+            }
+        }
+        Check.state("a seventh", () -> x.addFinder(0, 0, 1));
     }
 
     private static void numbersOfStations() {
@@ -339,6 +397,38 @@ public final class ActionBoundaryTests {
         }
     }
 
+    /** Eight deliveries that arrive in another order than that in which they were ordered, two in the same watch. */
+    private static void eightOfThem() {
+        int[] delays = {5, 30, 1, 8, 8, 2, 29, 3};
+        int[] stations = {0, 1, 2, 3, 4, 4, 3, 2};
+        SondeStations x = new SondeStations();
+        for (int s = 0; s < 5; s++) {
+            x.addStation(s, 0, 1, 0, 0);
+        }
+        for (int k = 0; k < 8; k++) {
+            x.set(0, delays[k]);
+            x.deliver(stations[k], 100 + k, 10 + k);
+        }
+        for (int watch = 0; watch <= 30; watch++) {
+            x.run(1);
+            int onTheWay = 0;
+            int[] gas = new int[5];
+            int[] sondes = new int[5];
+            for (int k = 0; k < 8; k++) {
+                boolean came = delays[k] <= watch;
+                onTheWay += came ? 0 : 1;
+                gas[stations[k]] += came ? 100 + k : 0;
+                sondes[stations[k]] += came ? 10 + k : 0;
+            }
+            Check.is("about(10) behind watch " + watch, onTheWay, () -> x.about(10));
+            for (int s = 0; s < 5; s++) {
+                int asked = s;
+                Check.is("station(" + s + ", 3) behind watch " + watch, gas[s], () -> x.station(asked, 3));
+                Check.is("stock(" + s + ", 0) behind watch " + watch, sondes[s], () -> x.stock(asked, 0));
+            }
+        }
+    }
+
     private static void paidWhenItIsOrdered() {
         SondeStations x = Nets.one(0, 0);
         x.deliver(0, 10, 1);
@@ -392,27 +482,8 @@ public final class ActionBoundaryTests {
 
     // ---- 19: move
 
-    /** At station 0 lies a sonde of each number of flights, 0 to 4; ten times one came back. */
-    private static SondeStations oneOfEachKind() {
-        SondeStations x = new SondeStations();
-        for (int s = 0; s < 5; s++) {
-            x.addStation(20 * s, 15, 1, 99, 1);
-            x.addFinder(20 * s, 0, 1);
-        }
-        x.set(1, 5);
-        // station s stops behind s watches, in each of which its sonde flew
-        for (int s = 0; s < 5; s++) {
-            x.change(s, 0, 1);
-            x.run(1);
-        }
-        for (int s = 1; s < 5; s++) {
-            x.move(s, 0);
-        }
-        return x;
-    }
-
     private static void mostFlownFirst() {
-        SondeStations x = oneOfEachKind();
+        SondeStations x = Nets.oneOfEachKindAt(0);
         for (int flights = 4; flights >= 0; flights--) {
             int f = flights;
             Check.is("stock(0, " + flights + ")", 1, () -> x.stock(0, f));

@@ -47,7 +47,28 @@ final class Nets {
         return x;
     }
 
-    /** Something of all, and room for more of all; 14 states are remembered, both slots are filled. */
+    /** Of five stations, at this one lies a sonde of each number of flights, 0 to 4; ten times one came back. */
+    static SondeStations oneOfEachKindAt(int there) {
+        SondeStations x = new SondeStations();
+        for (int s = 0; s < 5; s++) {
+            x.addStation(20 * s, 15, 1, 99, 1);
+            x.addFinder(20 * s, 0, 1);
+        }
+        x.set(1, 5);
+        // station s stops behind s watches, in each of which its sonde flew
+        for (int s = 0; s < 5; s++) {
+            x.change(s, 0, 1);
+            x.run(1);
+        }
+        for (int s = 0; s < 5; s++) {
+            if (s != there) {
+                x.move(s, there);
+            }
+        }
+        return x;
+    }
+
+    /** Something of all, also on the way, and room for more of all; 14 states are remembered, both slots are filled. */
     static SondeStations roomy() {
         SondeStations x = small();
         type(x, "Ns40150305r2");
@@ -63,20 +84,23 @@ final class Nets {
         for (int k = 1; k <= 7; k++) {
             x.deliver(k % 2, k, 2);
         }
-        x.run(2);
+        x.run(1);
         x.set(3, 31);
         x.change(0, 11, 1);
         x.wind(3, -1);
         return x;
     }
 
-    /** Full of all: 120 characters, 5 stations, 6 finders, 8 deliveries, 12 gaps and more, 14 states, both slots. */
+    /**
+     * Full of all: 120 characters, 5 stations, the last one without sondes, 6 finders, 8 deliveries, 12 gaps and more,
+     * sondes on the way to several stations, 14 states, both slots.
+     */
     static SondeStations full() {
         SondeStations x = typed(FULL_TEXT);
-        x.addStation(10, 15, 1, 40, 3);
-        x.addStation(30, 5, 2, 0, 2);
-        x.addStation(50, 10, 3, 50, 2);
-        x.addStation(70, 15, 1, 5, 9);
+        x.addStation(10, 15, 1, 80, 9);
+        x.addStation(30, 5, 2, 80, 19);
+        x.addStation(50, 10, 3, 150, 9);
+        x.addStation(70, 15, 1, 80, 3);
         x.addStation(99, 0, 5, 999, 0);
         x.addFinder(10, 20, 2);
         x.addFinder(30, 9, 30);

@@ -15,6 +15,7 @@ public final class QuestionBoundaryTests {
         Check.sentence(6, "Throws `IllegalArgumentException` if what is not 0 to 11", QuestionBoundaryTests::aboutRange);
 
         Check.sentence(7, "1: its hours, bit h set for the hour h", QuestionBoundaryTests::everyHourAlone);
+        Check.sentence(7, "4: the sondes of its stock;", QuestionBoundaryTests::sondesOfAllKinds);
         Check.sentence(7, "0: nothing; 1: release; 2: a gap by gas; 3: a gap by sondes",
                 QuestionBoundaryTests::whatItWouldDo);
         Check.sentence(7, "7: what it would do if this watch went by now (with what arrives in it)",
@@ -152,6 +153,25 @@ public final class QuestionBoundaryTests {
                 Check.is("station(0, 7) with hours " + hours + " in watch " + watch, due, () -> x.station(0, 7));
                 Check.is("run(1)", due, () -> x.run(1));
             }
+        }
+    }
+
+    private static void sondesOfAllKinds() {
+        for (int there = 0; there < 5; there++) {
+            SondeStations x = Nets.oneOfEachKindAt(there);
+            for (int s = 0; s < 5; s++) {
+                int asked = s;
+                int due = s == there ? 5 : 0;
+                Check.is("all lie at " + there + ", station(" + s + ", 4)", due, () -> x.station(asked, 4));
+                for (int flights = 0; flights < 5; flights++) {
+                    int f = flights;
+                    Check.is("stock(" + s + ", " + flights + ")", due / 5, () -> x.stock(asked, f));
+                }
+            }
+            Check.is("about(11)", 5, () -> x.about(11));
+            long five = 80050L + 1000L * there;
+            Check.is("a script finds five", -1, () -> x.runScript(1, five));
+            Check.is("coming(60, 3)", 5, () -> x.coming(60, 3));
         }
     }
 

@@ -192,8 +192,10 @@ public final class RunBoundaryTests {
                     x.addStation(place, 15, size, 99, 1);
                     x.wind(0, v);
                     // together they find at all places
-                    x.addFinder(20, 20, 1);
+                    x.addFinder(0, 20, 1);
+                    x.addFinder(40, 20, 1);
                     x.addFinder(61, 20, 1);
+                    x.addFinder(80, 20, 1);
                     x.addFinder(99, 20, 1);
                     x.run(1);
                     int landed = place + size * v;

@@ -143,6 +143,10 @@ public final class ScriptBoundaryTests {
         Check.is("5 digits", 0, () -> Nets.full().runScript(1, 99999L));
         Check.is("10 digits", 0, () -> Nets.full().runScript(2, 9999999999L));
         Check.is("15 digits", 0, () -> Nets.full().runScript(3, 999999999999999L));
+        Check.is("the first group does not grow by those behind it", 0, () -> paused().runScript(3, 600009999999999L));
+        Check.is("nor do they make it less", 1, () -> paused().runScript(3, 600010000000000L));
+        Check.is("the second group neither", 0, () -> paused().runScript(2, 6000099999L));
+        Check.is("neither of them", 1, () -> paused().runScript(2, 6000100000L));
         Check.is("0 for one", 0, () -> Nets.full().runScript(1, 0L));
         Check.is("0 for two", 0, () -> Nets.full().runScript(2, 0L));
         Check.is("0 for three", 0, () -> Nets.full().runScript(3, 0L));

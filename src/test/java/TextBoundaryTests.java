@@ -29,6 +29,7 @@ public final class TextBoundaryTests {
         Check.sentence(4, "The error position is the index of the first character that these rules do not allow at its "
                 + "place", TextBoundaryTests::everyCharacterAtEveryPlace);
         Check.sentence(4, "if the text ends too soon, it is the length of the text.", TextBoundaryTests::endsTooSoon);
+        Check.sentence(4, "The object has a text buffer", TextBoundaryTests::endsBeforeAnOlderText);
         Check.sentence(4, "and then any number of commands", TextBoundaryTests::anyNumberOfCommands);
         Check.sentence(4, "The text is read from left to right.", TextBoundaryTests::firstOfTwoErrors);
 
@@ -224,7 +225,30 @@ public final class TextBoundaryTests {
             }
         }
         error(Nets.FULL_TEXT.substring(0, 119), 119);
-        error("N" + "w0+05".repeat(22) + "r1r1r1r1s", 120);
+        for (String command : commands) {
+            for (int left = 1; left < command.length(); left++) {
+                int before = 119 - left;
+                String fill = before % 2 == 0 ? "" : "w0-05";
+                fill += "r1".repeat((before - fill.length()) / 2);
+                error("N" + fill + command.substring(0, left), 120);
+            }
+        }
+    }
+
+    /** What stood in the text before it was emptied does not go on behind its end. */
+    private static void endsBeforeAnOlderText() {
+        String[] nets = {"Ns99155999r1", "Nf992030r1", "Nw3-20r1", "Nw3+20r1", "Nd4999r1", "Nr9r1"};
+        for (String net : nets) {
+            for (int length = 0; length < net.length(); length++) {
+                String part = net.substring(0, length);
+                SondeStations x = Nets.typed(net);
+                Nets.type(x, part);
+                int due = Nets.typed(part).errorPosition();
+                Check.is("errorPosition() of \"" + part + "\"", due, x::errorPosition);
+                boolean ends = length == 1 || length == net.length() - 2;
+                Check.is("and again", ends ? SondeStations.NONE : length, x::errorPosition);
+            }
+        }
     }
 
     private static void anyNumberOfCommands() {
