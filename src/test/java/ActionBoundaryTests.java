@@ -27,7 +27,8 @@ public final class ActionBoundaryTests {
         int[] good = {50, 15, 1, 9, 9};
         Refused.CallWith add = (x, a) -> x.addStation(a[0], a[1], a[2], a[3], a[4]);
         Check.sentence(14, "`place`: 0 to 99", () -> ROOMY.range("place", good, 0, 0, 99, add));
-        Check.sentence(14, "`hours`: 0 to 15, bit h set for the hour h", () -> ROOMY.range("hours", good, 1, 0, 15, add));
+        Check.sentence(14, "`hours`: 0 to 15, bit h set for the hour h",
+                () -> ROOMY.range("hours", good, 1, 0, 15, add));
         Check.sentence(14, "`size`: 1 to 5", () -> ROOMY.range("size", good, 2, 1, 5, add));
         Check.sentence(14, "`gas`: 0 to 999", () -> ROOMY.range("gas", good, 3, 0, 999, add));
         Check.sentence(14, "`sondes`: 0 to 99", () -> ROOMY.range("sondes", good, 4, 0, 99, add));
@@ -73,7 +74,8 @@ public final class ActionBoundaryTests {
         Refused.CallWith wind = (x, a) -> x.wind(a[0], a[1]);
         Check.sentence(16, "`hour`: 0 to 3", () -> ROOMY.range("hour", good, 0, 0, 3, wind));
         Check.sentence(16, "`v`: -20 to 20", () -> ROOMY.range("v", good, 1, -20, 20, wind));
-        Check.sentence(16, "Returns the previous one, with 100 added to it.", ActionBoundaryTests::everyWindBehindEvery);
+        Check.sentence(16, "Returns the previous one, with 100 added to it.",
+                ActionBoundaryTests::everyWindBehindEvery);
         Check.sentence(16, "Throws `IllegalArgumentException` if hour or v is out of range", () -> {
             FULL.argument("hour -1", x -> x.wind(-1, 0));
             FULL.argument("hour 4", x -> x.wind(4, 20));
@@ -198,7 +200,8 @@ public final class ActionBoundaryTests {
         Check.sentence(22, "load and restore are not actions.", ActionBoundaryTests::loadAndRestoreAreNoActions);
         Check.sentence(22, "the state, which consists of everything but the text and the save slots",
                 ActionBoundaryTests::textAndSlotsStay);
-        Check.sentence(22, "Takes back the last action that is remembered.", ActionBoundaryTests::everyActionIsTakenBack);
+        Check.sentence(22, "Takes back the last action that is remembered.",
+                ActionBoundaryTests::everyActionIsTakenBack);
         Check.sentence(22, "Throws `IllegalStateException` if none is remembered", ActionBoundaryTests::noneRemembered);
     }
 

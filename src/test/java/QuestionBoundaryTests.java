@@ -10,9 +10,11 @@ public final class QuestionBoundaryTests {
     public static void main(String[] args) {
         Check.sentence(6, "`what`: 0: the stations; 1: the finders;", QuestionBoundaryTests::numbersOfAFullNet);
         Check.sentence(6, "11: the sondes in all stocks", QuestionBoundaryTests::sondesOnTheWayAreInNoStock);
-        Check.sentence(6, "6: the sondes that were lost so far; 7: those that came back to a stock so far; 8: those that "
+        Check.sentence(6,
+                "6: the sondes that were lost so far; 7: those that came back to a stock so far; 8: those that "
                 + "were scrapped so far", QuestionBoundaryTests::lostCameScrapped);
-        Check.sentence(6, "Throws `IllegalArgumentException` if what is not 0 to 11", QuestionBoundaryTests::aboutRange);
+        Check.sentence(6, "Throws `IllegalArgumentException` if what is not 0 to 11",
+                QuestionBoundaryTests::aboutRange);
 
         Check.sentence(7, "1: its hours, bit h set for the hour h", QuestionBoundaryTests::everyHourAlone);
         Check.sentence(7, "4: the sondes of its stock;", QuestionBoundaryTests::sondesOfAllKinds);
@@ -22,7 +24,8 @@ public final class QuestionBoundaryTests {
                 QuestionBoundaryTests::withWhatArrives);
         Check.sentence(7, "Throws `IndexOutOfBoundsException` if there is no such station",
                 QuestionBoundaryTests::noSuchStation);
-        Check.sentence(7, "Throws `IllegalArgumentException` if what is not 0 to 7", QuestionBoundaryTests::stationRange);
+        Check.sentence(7, "Throws `IllegalArgumentException` if what is not 0 to 7",
+                QuestionBoundaryTests::stationRange);
         Check.sentence(7, "If several exceptions apply to a call, the one that its description names first is thrown.",
                 QuestionBoundaryTests::stationBeforeRange);
 
@@ -40,14 +43,16 @@ public final class QuestionBoundaryTests {
                 QuestionBoundaryTests::wouldSendTo);
         Check.sentence(9, "Throws `IndexOutOfBoundsException` if there is no such finder",
                 QuestionBoundaryTests::noSuchFinder);
-        Check.sentence(9, "Throws `IllegalArgumentException` if what is not 0 to 4", QuestionBoundaryTests::finderRange);
+        Check.sentence(9, "Throws `IllegalArgumentException` if what is not 0 to 4",
+                QuestionBoundaryTests::finderRange);
         Check.sentence(9, "If several exceptions apply to a call, the one that its description names first is thrown.",
                 QuestionBoundaryTests::finderBeforeRange);
 
         Check.sentence(10, "of several the one that was released first", QuestionBoundaryTests::arriveTogether);
         Check.sentence(10, "0: the watch in which it arrives; 1: its station; 2: the flights that it made",
                 QuestionBoundaryTests::allThatCanBeOnTheWay);
-        Check.sentence(10, "Returns that number; NONE if there are not so many.", QuestionBoundaryTests::notSoManyBacks);
+        Check.sentence(10, "Returns that number; NONE if there are not so many.",
+                QuestionBoundaryTests::notSoManyBacks);
         Check.sentence(10, "Throws `IllegalArgumentException` if k is negative, or what is not 0 to 2",
                 QuestionBoundaryTests::backRange);
 
@@ -61,7 +66,8 @@ public final class QuestionBoundaryTests {
 
         Check.sentence(12, "`hour`: 0 to 3", QuestionBoundaryTests::everyWind);
         Check.sentence(12, "Returns 100 and the wind.", QuestionBoundaryTests::strongestWinds);
-        Check.sentence(12, "Throws `IllegalArgumentException` if hour is out of range", QuestionBoundaryTests::windOfRange);
+        Check.sentence(12, "Throws `IllegalArgumentException` if hour is out of range",
+                QuestionBoundaryTests::windOfRange);
 
         Check.sentence(13, "`what`: 0 to 4", QuestionBoundaryTests::everySetting);
         Check.sentence(13, "Throws `IllegalArgumentException` if what is out of range",

@@ -22,12 +22,15 @@ public final class RunBoundaryTests {
         Check.sentence(20, "Returns how many releases there are in them.", RunBoundaryTests::noneAndAllRelease);
         Check.sentence(20, "An object is used for at most 512 calls", RunBoundaryTests::longestRun);
         Check.sentence(20, "so the hour of a watch is its number modulo 4", RunBoundaryTests::hoursOfTheDay);
-        Check.sentence(20, "it needs as much gas as the size of its balloons, and a sonde", RunBoundaryTests::justEnough);
-        Check.sentence(20, "If it has less gas, there is a gap by gas; otherwise, if its stock is empty, there is a gap "
+        Check.sentence(20, "it needs as much gas as the size of its balloons, and a sonde",
+                RunBoundaryTests::justEnough);
+        Check.sentence(20,
+                "If it has less gas, there is a gap by gas; otherwise, if its stock is empty, there is a gap "
                 + "by sondes.", RunBoundaryTests::gasBeforeSondes);
         Check.sentence(20, "Each station, ascending", RunBoundaryTests::ascending);
         Check.sentence(20, "the sonde of the stock that made most flights goes up", RunBoundaryTests::mostFlownGoesUp);
-        Check.sentence(20, "It lands at the place of the station plus the wind of this hour times the size of the balloon",
+        Check.sentence(20,
+                "It lands at the place of the station plus the wind of this hour times the size of the balloon",
                 RunBoundaryTests::windOfTheHour);
         Check.sentence(20, "if there is no such place (below 0 or above 99)", RunBoundaryTests::everyLanding);
         Check.sentence(20, "or nobody finds what lands there, it is lost", RunBoundaryTests::justInReach);

@@ -25,7 +25,8 @@ public final class ScriptBoundaryTests {
         Check.sentence(29, "`n`: number of commands, 1 to 3", ScriptBoundaryTests::numberOfCommands);
         Check.sentence(29, "`script`: the commands, a number of at most 5 * n digits (0 or more)",
                 ScriptBoundaryTests::longestScripts);
-        Check.sentence(29, "Throws `IllegalArgumentException` if n is out of range, or if script is negative or has more "
+        Check.sentence(29,
+                "Throws `IllegalArgumentException` if n is out of range, or if script is negative or has more "
                 + "than 5 * n digits", ScriptBoundaryTests::scriptOutOfRange);
         Check.sentence(29, "(with zeros before it, if it has fewer digits)", ScriptBoundaryTests::zerosBeforeIt);
         Check.sentence(29, "Returns the index, from 0, of the first command that fails; NONE if all succeed.",

@@ -365,7 +365,8 @@ public final class TextBoundaryTests {
         Check.is("17 finders", 11, () -> Nets.typed("N" + "f000001".repeat(17)).load());
         Check.is("eight deliveries", 0, () -> Nets.typed("N" + station + "d0010".repeat(8)).load());
         Check.is("nine deliveries", 1, () -> Nets.typed("N" + station + "d0010".repeat(9)).load());
-        Check.is("nine, the first ones came", 0, () -> Nets.typed("N" + station + "d0010".repeat(8) + "r5d0010").load());
+        Check.is("nine, the first ones came", 0,
+                () -> Nets.typed("N" + station + "d0010".repeat(8) + "r5d0010").load());
         Check.is("nine, not yet there", 1, () -> Nets.typed("N" + station + "d0010".repeat(8) + "r4d0010").load());
         Check.is("a delivery of nothing", 1, () -> Nets.typed("N" + station + "d0000").load());
         Check.is("a delivery to the second of one", 1, () -> Nets.typed("N" + station + "d1010").load());
