@@ -1097,7 +1097,7 @@ public final class SondeStations {
     /** The gaps: how many there were, and the latest of them in a ring. */
     private static final class Gaps {
         int count;
-        /** Where the next gap goes: over the oldest one, once all places are taken. */
+        /** Where the next gap goes, over the oldest one once all places are taken; behind the last one, the first. */
         private int next;
         private final int[] watch = new int[MOST_GAPS];
         private final int[] station = new int[MOST_GAPS];
@@ -1112,10 +1112,11 @@ public final class SondeStations {
         }
 
         void add(int itsWatch, int s, int itsReason) {
-            watch[next] = itsWatch;
-            station[next] = s;
-            reason[next] = itsReason;
-            next = next + 1 < MOST_GAPS ? next + 1 : 0;
+            int at = next < MOST_GAPS ? next : 0;
+            watch[at] = itsWatch;
+            station[at] = s;
+            reason[at] = itsReason;
+            next = at + 1;
             count++;
         }
 
@@ -1124,8 +1125,7 @@ public final class SondeStations {
             if (!within(k, 0, MOST_GAPS - 1) || k >= count) {
                 return NONE;
             }
-            int latest = next - 1 - k;
-            int at = latest < 0 ? latest + MOST_GAPS : latest;
+            int at = Math.floorMod(next - 1 - k, MOST_GAPS);
             switch (what) {
                 case 0:
                     return watch[at];
